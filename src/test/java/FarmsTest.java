@@ -206,7 +206,8 @@ public final class FarmsTest {
         int[] anger = {1, 0, 0};
         for (int i = 1; i < 100; i++) {
             Due.is("year()", x.year(), i);
-            Due.is("ANGER in year " + i, x.of(1, 6), i <= 3 ? anger[i - 1] : 0);
+            Due.is("ANGER of 0 in year " + i, x.of(0, 6), i <= 3 ? anger[i - 1] : 0);
+            Due.is("ANGER of 1 in year " + i, x.of(1, 6), i <= 3 ? anger[i - 1] : 0);
         }
         x.nights(1);
         Due.refuses(x, "year() in 99", x::year, Due.STATE);

@@ -6,6 +6,7 @@ public final class NightsTest {
         seed();
         nightsByHand();
         nightsRefused();
+        drawsAtTheEdge();
         nightsAsTold();
         ahead();
         purse();
@@ -60,6 +61,56 @@ public final class NightsTest {
         Due.refuses(x, "ahead(1, -1)", () -> x.ahead(1, -1), Due.BEYOND);
         Due.refuses(x, "ahead(1, 3)", () -> x.ahead(1, 3), Due.BEYOND);
         Due.is("ahead(1, 2)", x.ahead(1, 2), 0);
+    }
+
+    /** P 966666, Q 987341, s 50: a draw of just as much is not below it, of one less is. */
+    private static void drawsAtTheEdge() {
+        int[] edges = {966666, 987341, 50};
+        for (int which = 0; which < 3; which++) {
+            for (int less = 0; less < 2; less++) {
+                NightDitch x = new NightDitch();
+                x.farm(1, 1, 40);
+                x.farm(2, 1, 39);
+                x.set(0, 2, 29);
+                x.set(0, 3, 50);
+                x.rule(0, 40);
+                int z = seedFor(which, edges[which] - less);
+                x.seed(z);
+                compareEdge(x, z, "draw " + which + ", less by " + less);
+                if (which == 0) {
+                    Due.is("TAKEN at the edge", x.count(3), less);
+                }
+            }
+        }
+    }
+
+    private static void compareEdge(NightDitch x, int seed, String which) {
+        int[] draws = new int[3];
+        int z = seed;
+        for (int i = 0; i < 3; i++) {
+            z = z * 1103515245 + 12345;
+            draws[i] = z >>> 8;
+        }
+        boolean takes = draws[0] % 1000000 < 966666;
+        boolean watches = draws[1] % 1000000 < 987341;
+        boolean seen = takes && watches && draws[2] % 100 < 50;
+        Due.is(which + ": nights(1)", x.nights(1), takes ? 1 : 0);
+        Due.is(which + ": SEEN", x.count(4), seen ? 1 : 0);
+        Due.is(which + ": PURSE of the OWNER", x.of(0, 5), (watches ? -29 : 0) + (seen ? 20 : takes ? -40 : 0));
+        Due.is(which + ": PURSE of the TAKER", x.of(1, 5), seen ? -40 : takes ? 39 : 0);
+    }
+
+    /** The z with which a draw (0: the first) is told. */
+    private static int seedFor(int which, int draw) {
+        int inverse = 1;
+        for (int i = 0; i < 8; i++) {
+            inverse *= 2 - 1103515245 * inverse;
+        }
+        int z = draw << 8;
+        for (int i = 0; i <= which; i++) {
+            z = (z - 12345) * inverse;
+        }
+        return z;
     }
 
     private static void nightsAsTold() {
@@ -198,6 +249,26 @@ public final class NightsTest {
         x.nights(1);
         Due.is("purse(0)", x.purse(0), 5);
         Due.is("purse(1)", x.purse(1), 0);
+        NightDitch y = new NightDitch();
+        y.farm(1, 1, 10);
+        y.farm(2, 1, 10);
+        y.nights(1);
+        Due.is("purse(0) of two", y.purse(0), 1);
+        Due.is("purse(1) of two", y.purse(1), 0);
+        y.swap(0, 1);
+        y.farm(1, 1, 30);
+        y.farm(2, 1, 10);
+        y.farm(1, 1, 10);
+        // By turns 1, 0, 2, 3, 4: 3 takes from 2, and 1 from 4.
+        y.nights(1);
+        Due.is("purse(0) of five", y.purse(0), 1);
+        Due.is("purse(1) of five", y.purse(1), 2);
+        NightDitch two = new NightDitch();
+        two.farm(2, 1, 10);
+        two.farm(1, 1, 10);
+        two.nights(1);
+        Due.is("purse(0) of the other two", two.purse(0), 0);
+        Due.is("purse(1) of the other two", two.purse(1), 1);
         Due.refuses(x, "purse(-1)", () -> x.purse(-1), Due.BEYOND);
         Due.refuses(x, "purse(2)", () -> x.purse(2), Due.BEYOND);
     }

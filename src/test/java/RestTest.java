@@ -119,6 +119,12 @@ public final class RestTest {
         Due.refuses(x, "least(-1)", () -> x.least(-1), Due.BEYOND);
         Due.refuses(x, "least(1000001)", () -> x.least(MILLION + 1), Due.BEYOND);
         Due.is("FINE stays", x.rule(0, 40), 40);
+        NightDitch sharp = ditch(2, 39, 10, 100);
+        sharp.rule(1, 100);
+        sharp.set(0, 1, 2);
+        Due.is("least(99): the greatest FINE", sharp.least(99), 99999);
+        sharp.set(0, 1, 1);
+        Due.refuses(sharp, "least(99): 100000 would be enough", () -> sharp.least(99), Due.NONE);
         x.farm(2, 1, 39);
         Due.refuses(x, "least(999999): one that sees nothing", () -> x.least(999999), Due.NONE);
     }

@@ -16,9 +16,10 @@ public final class SheetsTest {
         Due.is("sheet(3, 16, 0)", x.sheet(3, 16, 0), 0);
         Due.refuses(x, "write(3, 0, 1) of no numbers", () -> x.write(3, 0, 1), Due.BEYOND);
         Due.is("sheet(1, 64, 2)", x.sheet(1, 64, 2), 2);
+        x.write(1, 0, 8);
         x.write(1, 1, 9);
         Due.is("sheet(1, 64, 3) again", x.sheet(1, 64, 3), 3);
-        Due.is("all are 0", x.write(1, 1, 9), 0);
+        isSheet("all are 0", x, 1, 0, 0, 0);
         Due.refuses(x, "sheet(-1, 8, 1)", () -> x.sheet(-1, 8, 1), Due.BEYOND);
         Due.refuses(x, "sheet(4, 8, 1)", () -> x.sheet(4, 8, 1), Due.BEYOND);
         Due.refuses(x, "sheet(1, 32, 1)", () -> x.sheet(1, 32, 1), Due.BEYOND);

@@ -196,6 +196,10 @@ public final class TextTest {
         }
         Due.is("text() of 60", Due.say(x, longest.toString()), 0);
         Due.is("gives(0)", x.gives(0), 39);
+        x.farm(2, 1, 1);
+        Due.is("text() of 60 steps", Due.say(x, "-d" + "+d".repeat(29)), 0);
+        Due.is("gives(1)", x.gives(1), 28);
+        Due.is("best(0) with it", x.best(0), 01);
         Due.is("text() of 60 that ends too early", Due.say(x, "(" + longest.substring(1)), -61);
     }
 

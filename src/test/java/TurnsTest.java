@@ -112,6 +112,12 @@ public final class TurnsTest {
         Due.is("another text by places", Due.say(x, "(0-o)*100+100"), 0);
         Due.is("best(1): only in front water is worth something", x.best(1), 0);
         Due.is("best(0): FARM 0 not in front", x.best(0), 0102);
+        NightDitch two = new NightDitch();
+        two.farm(1, 1, 100);
+        two.farm(2, 1, 100);
+        Due.is("the text o", Due.say(two, "o"), 0);
+        Due.is("best(1): in front water is worth nothing", two.best(1), 0);
+        Due.is("best(0): FARM 1 in front", two.best(0), 010);
     }
 
     private static void bestOfAll() {
@@ -161,7 +167,9 @@ public final class TurnsTest {
     private static void share() {
         NightDitch x = new NightDitch();
         Due.refuses(x, "share(0) without farms", () -> x.share(0), Due.BEYOND);
-        x.farm(0, 7, 1);
+        x.farm(0, 1, 1);
+        Due.is("share(0) of one hour", x.share(0), 100);
+        x.set(0, 0, 7);
         Due.is("share(0) alone", x.share(0), 100);
         x.farm(0, 24, 1);
         x.farm(0, 1, 1);
