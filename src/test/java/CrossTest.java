@@ -1,29 +1,24 @@
 import java.util.ArrayDeque;
 import java.util.Deque;
 import java.util.Random;
+import java.util.function.Supplier;
 
 /** Answers by chance against the document's words told another way: sections 2 and 4, and FAULT. */
 public final class CrossTest {
     private static final int MILLION = 1000000;
+    private static final int MOST_BYTES = 60;
     private static int values = 0;
     private static int faults = 0;
 
     public static void main(String[] args) {
         Random random = new Random(23);
         for (int round = 0; round < 1500; round++) {
-            int farms = 2 + random.nextInt(7);
-            NightDitch x = RandomDitch.make(random, farms);
-            if (random.nextInt(3) > 0) {
-                Grown text = new Grown(random, x);
-                Due.say(x, text.sum(5).sign);
-            }
-            if (random.nextInt(3) > 0) {
-                x.nights(1 + random.nextInt(20));
-            }
-            compareRest(x, farms);
-            compareLeast(x, farms, RandomDitch.pick(random, MILLION));
-            compareBreaks(x, farms, RandomDitch.pick(random, MILLION));
-            compareHire(x, random.nextInt(101));
+            long seed = random.nextLong();
+            Supplier<NightDitch> made = () -> byChance(new Random(seed));
+            compareRest(made.get());
+            compareLeast(made, RandomDitch.pick(random, MILLION));
+            compareBreaks(made.get(), RandomDitch.pick(random, MILLION));
+            compareHire(made.get(), random.nextInt(101));
         }
         for (int round = 0; round < 20000; round++) {
             compareValue(random);
@@ -35,15 +30,24 @@ public final class CrossTest {
         Due.end();
     }
 
-    private static int look(NightDitch x, int rule) {
-        int v = x.rule(rule, 0);
-        x.rule(rule, v);
-        return v;
+    private static NightDitch byChance(Random random) {
+        NightDitch x = RandomDitch.make(random, 2 + random.nextInt(7));
+        if (random.nextInt(3) > 0) {
+            String text = new Grown(random, x).sum(5).sign;
+            if (text.length() <= MOST_BYTES) {
+                Due.say(x, text);
+            }
+        }
+        if (random.nextInt(3) > 0) {
+            x.nights(1 + random.nextInt(20));
+        }
+        return x;
     }
 
-    private static void compareRest(NightDitch x, int farms) {
-        long fine = look(x, 0);
-        long given = fine * look(x, 1) / 100;
+    private static void compareRest(NightDitch x) {
+        int farms = x.count(0);
+        long fine = Due.ruleOf(x, 0);
+        long given = fine * Due.ruleOf(x, 1) / 100;
         long all = 0;
         int always = 0;
         for (int place = 0; place < farms; place++) {
@@ -51,7 +55,7 @@ public final class CrossTest {
             int taker = x.turn((place + 1) % farms);
             long wants = x.of(taker, 8);
             long minds = x.of(owner, 9);
-            long sees = Math.min(100, x.of(owner, 4) + look(x, 3));
+            long sees = Math.min(100, x.of(owner, 4) + Due.ruleOf(x, 3));
             long[] takes = {1, 1};
             long[] watches = {0, 1};
             if (wants == 0) {
@@ -71,9 +75,9 @@ public final class CrossTest {
             Due.is("P", x.rest(place, 4), p);
             Due.is("Q", x.rest(place, 5), q);
             Due.is("OPEN", x.rest(place, 6), open);
-            long lost = q * minds + open * look(x, 2);
+            long lost = q * minds + open * Due.ruleOf(x, 2);
             Due.is("LOST", x.lost(place), lost);
-            long together = open + look(x, 4) * 10000L;
+            long together = open + Due.ruleOf(x, 4) * 10000L;
             Due.is("BLAME", x.blame(place), together == 0 ? 0 : open * MILLION / together);
             all += lost;
             always |= p == MILLION ? 1 << taker : 0;
@@ -91,49 +95,47 @@ public final class CrossTest {
         }
     }
 
-    private static int greatest(NightDitch x, int farms) {
+    private static int greatest(NightDitch x) {
         int greatest = 0;
-        for (int place = 0; place < farms; place++) {
+        for (int place = 0; place < x.count(0); place++) {
             greatest = Math.max(greatest, x.rest(place, 4));
         }
         return greatest;
     }
 
-    private static void compareLeast(NightDitch x, int farms, int most) {
-        int fine = look(x, 0);
-        int least = x.least(most);
-        Due.is("FINE behind least", look(x, 0), fine);
-        if (least == Due.NONE) {
-            x.rule(0, 99999);
-            Due.holds("that no FINE is enough", greatest(x, farms) > most);
-        } else {
-            x.rule(0, least);
-            Due.holds("that the least FINE is enough", greatest(x, farms) <= most);
-            for (int below = least - 1; below >= 0; below = below < 1000 ? below - 7 : below / 2) {
-                x.rule(0, below);
-                Due.holds("that a lower FINE is not enough", greatest(x, farms) > most);
-            }
-        }
+    /** Asked of an object of its own, since none is good for more than 512 calls. */
+    private static int greatestWith(Supplier<NightDitch> made, int fine) {
+        NightDitch x = made.get();
         x.rule(0, fine);
+        return greatest(x);
     }
 
-    private static void compareBreaks(NightDitch x, int farms, int most) {
-        int stood = x.count(2);
+    private static void compareLeast(Supplier<NightDitch> made, int most) {
+        int least = made.get().least(most);
+        if (least == Due.NONE) {
+            Due.holds("that no FINE is enough", greatestWith(made, 99999) > most);
+            return;
+        }
+        Due.holds("that the least FINE is enough", greatestWith(made, least) <= most);
+        for (int below = least - 1; below >= 0; below = below < 1000 ? below - 7 : below / 2) {
+            Due.holds("that a lower FINE is not enough", greatestWith(made, below) > most);
+        }
+    }
+
+    private static void compareBreaks(NightDitch x, int most) {
         int got = x.breaks(most);
-        Due.is("DRY behind breaks", x.count(2), stood);
         int due = Due.NONE;
         for (int dry = 9; dry >= 1; dry--) {
             x.dry(dry);
-            due = greatest(x, farms) > most ? dry : due;
+            due = greatest(x) > most ? dry : due;
         }
-        x.dry(stood);
         Due.is("breaks(" + most + ")", got, due);
     }
 
     private static void compareHire(NightDitch x, int more) {
         long got = x.hire(more);
         long before = x.lost(-1);
-        int man = look(x, 3);
+        int man = Due.ruleOf(x, 3);
         x.rule(3, Math.min(100, man + more));
         Due.is("hire(" + more + ")", got, before - x.lost(-1));
         x.rule(3, man);
@@ -144,7 +146,7 @@ public final class CrossTest {
         Grown grown = new Grown(random, x);
         Part part = grown.sum(5);
         int answer = Due.say(x, part.sign);
-        if (part.sign.length() > 60) {
+        if (part.sign.length() > MOST_BYTES) {
             return;
         }
         values++;
@@ -167,7 +169,7 @@ public final class CrossTest {
                 text.deleteCharAt(at);
             }
         }
-        if (text.length() <= 60) {
+        if (text.length() <= MOST_BYTES) {
             int due = faultOf(text.toString());
             faults += due < 0 ? 1 : 0;
             Due.is("text " + text, Due.say(x, text.toString()), due);
