@@ -44,6 +44,8 @@ public final class NightDitch {
     private static final int MOST_NIGHTS = 50;
     private static final int MILLION = 1000000;
 
+    private static final long MORE_THAN_IS_LOST = 1L << 60;
+
     private static final int MOST_BYTES = 60;
     private static final int MOST_DIGITS = 4;
     private static final int MOST_OPEN = 5;
@@ -919,7 +921,7 @@ public final class NightDitch {
                     fillLost(ditch, owner, taker);
                 }
             }
-            leastLost = Long.MAX_VALUE;
+            leastLost = MORE_THAN_IS_LOST;
             leastNumber = 0;
             layFirst(ditch.said.asksPlace() ? count : 1);
         }

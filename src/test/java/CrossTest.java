@@ -145,12 +145,11 @@ public final class CrossTest {
         NightDitch x = RandomDitch.make(random, 1 + random.nextInt(8));
         Grown grown = new Grown(random, x);
         Part part = grown.sum(5);
-        int answer = Due.say(x, part.sign);
         if (part.sign.length() > MOST_BYTES) {
             return;
         }
         values++;
-        Due.is("text " + part.sign, answer, 0);
+        Due.is("text " + part.sign, Due.say(x, part.sign), 0);
         Due.is("what " + part.sign + " gives", x.gives(grown.farm), part.value);
         long pays = (long) x.of(grown.farm, 2) * part.value / 100;
         Due.is("PAYS", x.of(grown.farm, 7), Math.max(0, Math.min(99999, pays)));
@@ -228,14 +227,15 @@ public final class CrossTest {
 
     /** Texts by chance, each with what it gives for a farm. */
     private static final class Grown {
+        private static final String NAMES = "dyhino";
         private final Random random;
-        private final NightDitch x;
+        private final int[] named;
         final int farm;
 
         Grown(Random random, NightDitch x) {
             this.random = random;
-            this.x = x;
             farm = random.nextInt(x.count(0));
+            named = new int[] {x.count(2), x.count(1), x.of(farm, 1), farm, x.count(0), x.of(farm, 10)};
         }
 
         Part sum(int room) {
@@ -300,14 +300,8 @@ public final class CrossTest {
         }
 
         private Part name() {
-            switch (random.nextInt(6)) {
-                case 0: return new Part("d", x.count(2));
-                case 1: return new Part("y", x.count(1));
-                case 2: return new Part("h", x.of(farm, 1));
-                case 3: return new Part("i", farm);
-                case 4: return new Part("n", x.count(0));
-                default: return new Part("o", x.of(farm, 10));
-            }
+            int which = random.nextInt(NAMES.length());
+            return new Part(NAMES.substring(which, which + 1), named[which]);
         }
     }
 }

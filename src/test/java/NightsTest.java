@@ -536,6 +536,22 @@ public final class NightsTest {
         Due.is("purse(1)", x.purse(1), 1);
     }
 
+    /** One by more than two thousand million above the other: no difference tells that in an int. */
+    static void promise30FarApart() {
+        NightDitch x = new NightDitch();
+        x.farm(4, 1, 999);
+        x.farm(1, 1, 999);
+        x.dry(9);
+        Due.say(x, "9999*9999");
+        for (int i = 0; i < 46; i++) {
+            x.nights(50);
+        }
+        Due.is("PURSE of 0", x.of(0, 5), 2300 * 899991);
+        Due.is("PURSE of 1", x.of(1, 5), -2300 * 99999);
+        Due.is("purse(0)", x.purse(0), 0);
+        Due.is("purse(1)", x.purse(1), 1);
+    }
+
     static void promise30TheLastFarm() {
         NightDitch x = new NightDitch();
         x.farm(1, 1, 10);

@@ -246,6 +246,7 @@ public final class RestTest {
         Due.is("lost(1)", x.lost(1), 0);
         Due.is("lost(-1)", x.lost(-1), 33527399);
         x.farm(2, 1, 1);
+        Due.is("lost(0) with a third", x.lost(0), 33527399);
         Due.is("lost(1) with a third", x.lost(1), 10000000);
         Due.is("lost(2) with a third", x.lost(2), 0);
         Due.is("lost(-1) with a third", x.lost(-1), 43527399);

@@ -319,6 +319,13 @@ public final class TextTest {
         Due.is("gives(0)", x.gives(0), 6);
     }
 
+    static void promise24LongTextBehindALongFault() {
+        NightDitch x = one();
+        Due.is("text of 60 that ends too early", Due.say(x, "1+".repeat(30)), -61);
+        Due.is("text of 60", Due.say(x, "-1" + "+1".repeat(29)), 0);
+        Due.is("gives(0)", x.gives(0), 28);
+    }
+
     static void promise24FaultWithoutATextMakesNone() {
         NightDitch x = one();
         Due.feed(x, "9+");

@@ -265,6 +265,14 @@ public final class TurnsTest {
         Due.is("best(0): FARM 1 in front", two.best(0), 010);
     }
 
+    static void promise13ByTheLongestText() {
+        NightDitch x = farms(7);
+        Due.is("the text", Due.say(x, "-d" + "+d".repeat(29)), 0);
+        Due.is("best(0)", x.best(0), 00123456);
+        Due.is("the other text", Due.say(x, "-1" + "+1".repeat(28) + "+o"), 0);
+        Due.is("best(0) by places", x.best(0), 00123456);
+    }
+
     static void promise13ChangesNothing() {
         NightDitch x = three();
         String before = Due.look(x);

@@ -14,40 +14,83 @@ public final class WildTest {
     };
     private static final String SIGNS = "0159dyhino+-*/()<?:(-(-";
 
+    private static final Method[] METHODS = Arrays.stream(NightDitch.class.getDeclaredMethods())
+        .filter(m -> Modifier.isPublic(m.getModifiers()))
+        .sorted(Comparator.comparing(Method::getName)).toArray(Method[]::new);
+
     public static void main(String[] args) throws ReflectiveOperationException {
-        Method[] methods = Arrays.stream(NightDitch.class.getDeclaredMethods())
-            .filter(m -> Modifier.isPublic(m.getModifiers()))
-            .sorted(Comparator.comparing(Method::getName)).toArray(Method[]::new);
         Random random = new Random(29);
-        for (int round = 0; round < 400; round++) {
-            NightDitch x = random.nextBoolean() ? new NightDitch()
-                : RandomDitch.make(random, 1 + random.nextInt(8));
-            for (int call = 0; call < 512; call++) {
-                callOne(x, methods[random.nextInt(methods.length)], random);
+        for (int round = 0; round < 500; round++) {
+            NightDitch x = make(random.nextLong());
+            for (int call = 0; call < 460; call++) {
+                new Call(random).on(x);
             }
+        }
+        for (int round = 0; round < 3000; round++) {
+            findingsChangeNothing(random);
         }
         Due.end();
     }
 
-    private static void callOne(NightDitch x, Method method, Random random) throws IllegalAccessException {
-        Object[] given = new Object[method.getParameterCount()];
-        for (int i = 0; i < given.length; i++) {
-            int v = argument(method.getName(), i, random);
-            given[i] = method.getParameterTypes()[i] == long.class ? (Object) (random.nextLong() ^ v) : (Object) v;
+    private static NightDitch make(long seed) {
+        Random random = new Random(seed);
+        return random.nextBoolean() ? new NightDitch() : RandomDitch.make(random, 1 + random.nextInt(8));
+    }
+
+    /** A twin has all the calls but those that answered a finding: both tell the same in the end. */
+    private static void findingsChangeNothing(Random random) throws ReflectiveOperationException {
+        long seed = random.nextLong();
+        NightDitch x = make(seed);
+        NightDitch twin = make(seed);
+        int findings = 0;
+        for (int i = 0; i < 60; i++) {
+            Call call = new Call(random);
+            long answer = call.on(x);
+            int more = x.status(-1) - findings;
+            findings += more;
+            Due.holds("that " + call + " counts one finding at most", more == 0 || more == 1);
+            if (more == 0) {
+                long same = call.on(twin);
+                Due.is(call + " on a twin", same, call.asksStatus() ? 0 : answer);
+            } else {
+                Due.holds("that " + call + " answers a finding", answer <= Due.BEYOND && answer >= Due.SIZE);
+            }
         }
-        String call = method.getName() + Arrays.toString(given);
-        int findings = x.status(-1);
-        boolean looks = random.nextInt(10) == 0;
-        String before = looks ? Due.look(x) : "";
-        findings += looks ? x.status(-1) - findings : 0;
-        try {
-            method.invoke(x, given);
-        } catch (InvocationTargetException thrown) {
-            Due.holds(call + ", which threw " + thrown.getCause() + ",", false);
+        Due.holds("that refused calls change nothing", Due.look(x).equals(Due.look(twin)));
+    }
+
+    private static final class Call {
+        private final Method method;
+        private final Object[] given;
+
+        Call(Random random) {
+            method = METHODS[random.nextInt(METHODS.length)];
+            given = new Object[method.getParameterCount()];
+            for (int i = 0; i < given.length; i++) {
+                int v = argument(method.getName(), i, random);
+                boolean isLong = method.getParameterTypes()[i] == long.class;
+                given[i] = isLong ? (Object) (random.nextLong() ^ v) : (Object) v;
+            }
         }
-        int more = x.status(-1) - findings;
-        Due.holds("that " + call + " counts one finding at most", more == 0 || more == 1);
-        Due.holds("what stood before " + call, !looks || more == 0 || Due.look(x).equals(before));
+
+        long on(NightDitch x) throws IllegalAccessException {
+            try {
+                return ((Number) method.invoke(x, given)).longValue();
+            } catch (InvocationTargetException thrown) {
+                Due.holds(this + ", which threw " + thrown.getCause() + ",", false);
+                return 0;
+            }
+        }
+
+        /** status() alone tells of what the twin was not asked. */
+        boolean asksStatus() {
+            return method.getName().equals("status");
+        }
+
+        @Override
+        public String toString() {
+            return method.getName() + Arrays.toString(given);
+        }
     }
 
     private static int argument(String name, int i, Random random) {
