@@ -930,7 +930,7 @@ public final class NightDitch {
         private void layFirst(int firsts) {
             for (int farm = 0; farm < firsts; farm++) {
                 laid[0] = farm;
-                layFrom(1, 1 << farm, 0L, farm);
+                layFrom(this, 1, 1 << farm, 0L, farm);
             }
         }
 
@@ -956,18 +956,21 @@ public final class NightDitch {
             return (owner * MOST_ORDERED + taker) * MOST_ORDERED + place;
         }
 
-        /** Nothing lost is below 0, so what has lost too much already is not gone on with. */
-        private void layFrom(int place, int used, long sum, int number) {
-            if (place >= count) {
-                closeRing(sum, number);
+        /**
+         * Nothing lost is below 0, so what has lost too much already is not gone on with.
+         * Static, as rule 8 of LANGUAGE.md has a method that calls itself.
+         */
+        private static void layFrom(Orders search, int place, int used, long sum, int number) {
+            if (place >= search.count) {
+                search.closeRing(sum, number);
                 return;
             }
-            for (int farm = 0; farm < count; farm++) {
+            for (int farm = 0; farm < search.count; farm++) {
                 if ((used >> farm & 1) == 0) {
-                    long more = sum + lost[index(laid[place - 1], farm, place - 1)];
-                    if (more < leastLost) {
-                        laid[place] = farm;
-                        layFrom(place + 1, used | 1 << farm, more, number * 8 + farm);
+                    long more = sum + search.lost[index(search.laid[place - 1], farm, place - 1)];
+                    if (more < search.leastLost) {
+                        search.laid[place] = farm;
+                        layFrom(search, place + 1, used | 1 << farm, more, number * 8 + farm);
                     }
                 }
             }

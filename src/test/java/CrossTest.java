@@ -7,6 +7,7 @@ import java.util.function.Supplier;
 public final class CrossTest {
     private static final int MILLION = 1000000;
     private static final int MOST_BYTES = 60;
+    private static final char NO_BYTE = 256;
     private static int values = 0;
     private static int faults = 0;
 
@@ -176,14 +177,14 @@ public final class CrossTest {
     }
 
     /** What text() answers, by a row of all that is open: '-', or a bracket by the part that is read. */
-    private static int faultOf(String text) {
+    static int faultOf(String text) {
         Deque<Character> open = new ArrayDeque<>();
         boolean wanted = true;
         int digits = 0;
         for (int i = 0; i < text.length(); i++) {
             char c = text.charAt(i);
             boolean digit = c >= '0' && c <= '9';
-            char top = open.isEmpty() ? '#' : open.peek();
+            char top = open.isEmpty() ? NO_BYTE : open.peek();
             if (wanted && (c == '-' || c == '(') && open.size() < 5) {
                 open.push(c == '-' ? '-' : '<');
             } else if (wanted && (digit || "dyhino".indexOf(c) >= 0)) {

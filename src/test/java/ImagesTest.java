@@ -499,6 +499,17 @@ public final class ImagesTest {
         Due.is("status(0)", x.status(0), 1);
     }
 
+    /** As many as an object's calls allow: the counts do not stop at some number. */
+    static void promise40HowManyEver() {
+        NightDitch x = new NightDitch();
+        for (int i = 1; i <= 255; i++) {
+            Due.is("dry(0)", x.dry(0), Due.BEYOND);
+            Due.is("told()", x.told(), Due.NONE);
+        }
+        Due.is("status(3)", x.status(3), 255);
+        Due.is("status(-1)", x.status(-1), 510);
+    }
+
     static void promise40OneCallCountsOneFinding() {
         NightDitch x = new NightDitch();
         Due.is("sheet(9, 9, -9)", x.sheet(9, 9, -9), Due.BEYOND);

@@ -124,6 +124,18 @@ public final class TextTest {
         Due.is("wipe() again", x.wipe(), 0);
     }
 
+    /** What THE TAPE had stands no more behind what it gets then. */
+    static void promise23NothingIsLeftBehindTheEnd() {
+        NightDitch x = one();
+        Due.feed(x, "8+23");
+        Due.is("wipe()", x.wipe(), 4);
+        Due.feed(x, "7");
+        Due.is("text()", x.text(), 0);
+        Due.is("gives(0)", x.gives(0), 7);
+        Due.feed(x, "6+");
+        Due.is("text() that ends too early", x.text(), -3);
+    }
+
     static void promise23TextStays() {
         NightDitch x = one();
         Due.say(x, "7");
